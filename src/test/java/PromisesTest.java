@@ -129,17 +129,21 @@ public final class PromisesTest {
         Check.due("what they have stays", Check.rows(x, 1), "1:2@3");
         Check.due("the mark stays", x.count(8), 1);
         Check.due("what is out stays", x.out(-1, 0), 1);
+        x.tell(0, 1, 2, 4);
+        x.read(1);
+        Check.due("one change waits", x.count(5), 1);
         Check.due("tables anew", Check.make(x, "a=source 0;b=plus a 1;c=less a a"), 3);
         Check.due("status of it", x.status(), 0);
         Check.due("nothing is read", x.count(1), 0);
+        Check.due("no change waits", x.count(5), 0);
         Check.due("there is no mark", x.count(8), 0);
         Check.due("nothing is out", x.out(-1, 0), 0);
         Check.due("no greatest time", x.count(7), -1);
-        Check.due("the log stays", x.count(0), 1);
+        Check.due("the log stays", x.count(0), 2);
         Check.due("no rows", x.rows(0) + x.rows(1) + x.rows(2), 0);
         Check.due("fall without a mark", x.fall(), 0);
-        Check.due("read anew", x.read(9), 1);
-        Check.due("rows anew", Check.rows(x, 1), "1:3@3");
+        Check.due("read anew", x.read(9), 2);
+        Check.due("rows anew", Check.rows(x, 1), "1:3@3 1:3@4");
         Check.due("twelve tables", Check.make(x, tables(12)), 12);
         Check.due("thirteen tables", Check.make(x, tables(13)), -6);
         Check.due("they stay", x.count(3), 12);
@@ -178,6 +182,8 @@ public final class PromisesTest {
         faultAt("a==source 0", 2);
         faultAt("a=sources 0", 2);
         faultAt("a=sourc 0", 2);
+        faultAt("a=xource 0", 2);
+        faultAt("a=0", 2);
         faultAt("a=source", 8);
         faultAt("a=source 3", 9);
         faultAt("a=source -1", 9);
@@ -202,6 +208,7 @@ public final class PromisesTest {
         faultAt(a + "b=join c a", 18);
         faultAt(a + "b=less aa", 18);
         faultAt(a + "b=where a valu<1", 21);
+        faultAt(a + "b=where a <1", 21);
         faultAt(a + "b=where a value", 26);
         faultAt(a + "b=where a value!1", 26);
         faultAt(a + "b=where a value<", 27);
@@ -331,6 +338,9 @@ public final class PromisesTest {
         Check.due("status again", x.status(), -5);
         Check.due("read none", x.read(0), 0);
         Check.due("status of none", x.status(), 0);
+        Check.due("fall", x.fall(), 0);
+        Check.due("what was full once is read again", x.read(20), 20);
+        Check.due("rows of it", x.rows(1), 400);
 
         // a late row makes no table larger
         TableStreams z = new TableStreams();
@@ -554,6 +564,8 @@ public final class PromisesTest {
         due("a=source 0;b=source 1;c=less b a", "", told);
         due("a=source 0;b=source 2;c=less a b", a, told);
         due("a=source 0;b=less a a", "", told);
+        due("a=source 0;b=rekey a 31;c=source 1;d=less b c", "0:5@7 0:5@7 0:-9@12 30:4@5", told);
+        due("a=source 1;b=last a", "1:100@9 2:200@3", told);
         due("b=source 0;a=ever b;c=rekey a 1;d=join a c", "2:-8@0 2:-1@0 2:6@0 2:6@0 2:13@0 2:13@0", told);
     }
 
