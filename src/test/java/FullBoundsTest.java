@@ -24,6 +24,7 @@ public final class FullBoundsTest {
         fullOfTheFirst();
         fourThousandWait();
         oneChangeTooMany();
+        someOfItsChangesTooMany();
         noChangeWhere4000Wait();
         fourThousandOut();
         oneOutTooMany();
@@ -230,6 +231,19 @@ public final class FullBoundsTest {
         x.rows(0, 41).rows(4, 201);
         Run y = changes("III: more than 4000 would WAIT, once for all that are READ").read(150, 79).status(-5);
         y.count(5, 4000).count(1, 79).fall(0).count(5, 0).read(79, 79).count(5, 4000).status(0);
+    }
+
+    private static void someOfItsChangesTooMany() {
+        Run x = new Run("III: more than 4000 would WAIT, though some of them would not");
+        x.make(A + "b=source 1;c=sum a;d=join b b;e=join c d", 5).tells(10, 1, 0, 0, 0).tells(20, 0, 0, 1, 0);
+        // 3900 changes, then 99 pairs of other keys: 49, 25, 25
+        x.tells(7, 1, 1, 0, 0).tells(5, 1, 2, 0, 0).tells(5, 1, 3, 0, 0);
+        x.tell(0, 1, 1, 0, 48).tell(0, 2, 1, 0, 49).tell(0, 3, 1, 0, 50).tell(1, 4, 0, 0, 51);
+        // the first of these turns 25 rows, the other one is of one change
+        x.tell(0, 3, 1, 0, 52).tell(0, 4, 1, 0, 53).read(51, 51).status(0).count(5, 3999).rows(4, 199);
+        full(x, 2).rows(4, 199).row(4, 198, 1, 1).mark(3999).status(0).out(3998, 0, 3).out(3999, 0, Run.UNSAID);
+        x.read(1, 1).status(0).count(5, 50).mark(-5).status(-5).out(-1, 0, 3999).out(3999, 0, Run.UNSAID).count(5, 50);
+        x.fall(51).count(5, 0).row(4, 198, 1, 1).mark(3999);
     }
 
     private static void noChangeWhere4000Wait() {

@@ -126,7 +126,7 @@ public final class HostBoundsTest {
     }
 
     private static void movedWithoutTables() {
-        Run x = new Run("14: MOVED without TABLES").tell(0, 0, 1, 1, 1).host(7, true, 0).status(0).owner(0, 7).owns(7, 0);
+        new Run("14: MOVED without TABLES").tell(0, 0, 1, 1, 1).host(7, true, 0).status(0).owner(0, 7).owns(7, 0);
     }
 
     private static void movedWithoutRows() {

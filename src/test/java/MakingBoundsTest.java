@@ -31,6 +31,9 @@ public final class MakingBoundsTest {
         lessByKeysAlone();
         lessTakesBack();
         oneTableTwice();
+        keyZeroAlone();
+        theLowestRow();
+        theGreatestRow();
         rowsOfATable();
         rowOfATable();
         orderOfRows();
@@ -241,6 +244,44 @@ public final class MakingBoundsTest {
     private static void oneTableTwice() {
         has("II: join of a TABLE with itself", A + "b=join a a", "3:2@5 3:3@6 3:3@6 3:4@6", 0, 3, 1, 5, 0, 3, 2, 6);
         has("II: join of a TABLE with what is made of it", A + "b=sum a;c=join b a", "3:4@5 3:5@5", 0, 3, 1, 5, 0, 3, 2, 5);
+    }
+
+    private static void keyZeroAlone() {
+        String[] ones = {"where a key=0", "plus a 0", "times a 1", "rekey a 0", "window a 7", "ever a", "sum a", "max a",
+            "last a"};
+        for (String one : ones) {
+            has("II: of KEY 0 and TIME 0 alone", A + "b=" + one, "0:5@0", 0, 0, 5, 0).count(5, 1).owns(0, 2);
+        }
+        has("II: of KEY 0 and TIME 0 alone", A + "b=count a", "0:1@0", 0, 0, 5, 0).count(5, 1);
+        has("II: of KEY 0 and TIME 0 alone", A + "b=join a a", "0:10@0", 0, 0, 5, 0).count(5, 1);
+        has("II: of KEY 0 and TIME 0 alone", AB + "c=less a b", "0:5@0", 0, 0, 5, 0).count(5, 1);
+        has("II: of KEY 0 and TIME 0 alone", AB + "c=less a b", "", 0, 0, 5, 0, 1, 0, 0, 0).count(5, 2);
+        has("II: of KEY 0, two TIMES", A + "b=last a", "0:-5@1", 0, 0, 5, 0, 0, 0, -5, 1).count(5, 3);
+    }
+
+    /** A row goes unchanged through each of these, in its order and as a change. */
+    private static void edgeRow(String sentence, String want, int key, int value, int time) {
+        String[] ones = {"where c key=" + key, "plus c 0", "times c 1", "rekey c 0", "window c 1", "sum c", "max c", "last c",
+            "less c e"};
+        for (String one : ones) {
+            Run x = new Run(sentence + ", " + one);
+            x.make("a=source 0;b=times a 1000;c=times b 1000;d=source 1;e=where d key=9;f=" + one, 6);
+            x.tell(0, key, value, time, 1).tell(1, key, 1, time, 2).read(1, 1);
+            x.status(0).table(2, want).table(5, want).count(5, 1).read(1, 1).count(5, 1).table(5, want).mark(1);
+            x.outs("+" + want).fall(2).table(5, want).owns(0, 5);
+        }
+        Run x = new Run(sentence + ", no longer").make("a=source 0;b=times a 1000;c=times b 1000;d=source 1;e=less c d", 5);
+        x.tell(0, key, value, time, 1).tell(0, key, value, time, 2).tell(1, key, 1, time, 3).read(2, 2);
+        x.table(4, want + " " + want).count(5, 2).read(1, 1).table(4, "").count(5, 4).mark(4);
+        x.outs("+" + want + " +" + want + " -" + want + " -" + want);
+    }
+
+    private static void theLowestRow() {
+        edgeRow("I: the lowest ROW of all", "0:-1000000000@0", 0, -1000, 0);
+    }
+
+    private static void theGreatestRow() {
+        edgeRow("I: the greatest ROW of all", "31:1000000000@10000", 31, 1000, 10000);
     }
 
     private static void rowsOfATable() {

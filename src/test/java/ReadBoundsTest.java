@@ -169,10 +169,10 @@ public final class ReadBoundsTest {
 
     private static void changesInTheirOrder() {
         // a row of key 31 is one of key 0 too, by rekey: 0 goes ahead of 31 among those no longer, and the new ones
-        Run x = new Run("III: no longer, then new, each sort by KEY").make(A + "b=ever a;c=sum b;d=rekey c 1;e=join c d;"
-            + "f=plus c 0", 6);
+        Run x = new Run("III: no longer, then new, each sort by KEY");
+        x.make(A + "b=ever a;c=sum b;d=rekey c 1;e=join c d", 5);
         x.tell(0, 31, 1, 1, 1).tell(0, 0, 10, 1, 2).tell(0, 30, 100, 1, 3).tell(0, 31, 1000, 1, 4);
-        x.make(A + "b=ever a;c=sum b;d=rekey c 1;e=join c d", 5).read(3, 3).table(4, "0:11@0 31:101@0").mark(2);
+        x.read(3, 3).table(4, "0:11@0 31:101@0").mark(2);
         x.read(1, 1).count(5, 4).mark(6).outs("+0:11@0 +31:101@0 -0:11@0 -31:101@0 +0:1011@0 +31:1101@0");
         Run y = new Run("III: by KEY, then TIME, then VALUE").make(A + "b=ever a;c=sum b;d=join a c", 4);
         y.tell(0, 3, 5, 9, 1).tell(0, 3, 7, 2, 2).tell(0, 3, -20, 9, 3).read(2, 2).mark(4);

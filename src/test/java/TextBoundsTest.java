@@ -332,6 +332,8 @@ public final class TextBoundsTest {
         refused("II: MAKING, none", A + "b=", 13);
         refused("II: MAKING, none", A + "b=;", 13);
         refused("II: MAKING, a NAME alone", A + "b=a", 13);
+        refused("II: MAKING, a number alone", "a=0", 2);
+        refused("II: MAKING, a number alone", A + "b=0", 13);
     }
 
     private static void columnsAndSigns() {
@@ -388,7 +390,8 @@ public final class TextBoundsTest {
         Run x = new Run("II: 12 TABLES at most").make(tables(12), 12).count(3, 12).tell(0, 1, 5, 1, 1).read(1, 1);
         x.rows(11, 1).row(11, 0, 1, 16).rows(12, -1).row(12, 0, 0, Run.UNSAID);
         x.put(tables(13)).tables(-6).status(-6).fault(tables(12).length() + 1).count(3, 12).row(11, 0, 1, 16);
-        x.rows(12, -1).mark(1).outs("+1:16@1");
+        x.rows(12, -1).mark(1).outs("+1:16@1").tell(0, 2, 6, 2, 2).read(1, 1).rows(11, 2).owns(0, 24);
+        x.fall(1).rows(0, 1).rows(11, 1).row(11, 0, 1, 16).host(7, true, 12).late(-1, -1).rows(11, 0);
     }
 
     private static void theThirteenthsName() {
